@@ -44,7 +44,7 @@ public final class ExchangeDesk {
     private static final int TICKS_TO_PARK = 600;
     private static final int TICKS_IN_A_UNIT = 60;
     private static final int MOST_TICKS = 1000;
-    private static final int NEVER = Integer.MAX_VALUE;
+    private static final int NEVER = 2147483647;
 
     private final Line[] lines;
     private final Switch paths;

@@ -56,6 +56,12 @@ public final class Promise03DownTest {
         Check.state(x, 22, Check.RINGING);
         Check.due("slots in use", x.count(2), 2);
         Check.due("no entry", x.count(1), 0);
+        Check.dial(x, 23, 10);
+        x.down(23);
+        Check.state(x, 0, Check.IDLE);
+        Check.dial(x, 1, 33);
+        x.down(1);
+        Check.state(x, 23, Check.IDLE);
     }
 
     private static void parkedLeavesItsPlace() {
