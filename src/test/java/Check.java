@@ -1,25 +1,35 @@
-/** Counts wrong answers and holds the short ways in which the tests work a desk. */
+/** Counts wrong answers and tells each with the promise and the sentence that it belongs to. */
 final class Check {
-    static final int IDLE = 0;
-    static final int DIAL_TONE = 1;
-    static final int DIALLING = 2;
-    static final int RINGBACK = 3;
-    static final int RINGING = 4;
-    static final int BUSY = 5;
-    static final int TALKING = 6;
-    static final int PARKED = 7;
-    static final int CAMPED = 8;
-    static final int HOWLER = 9;
-
+    private static String sentence = "";
     private static int wrong = 0;
 
     private Check() {
     }
 
+    /** Runs the test of one sentence of the document. */
+    static void sentence(String name, Runnable test) {
+        sentence = name;
+        try {
+            test.run();
+        } catch (RuntimeException | AssertionError e) {
+            tell("a call threw " + e);
+        }
+    }
+
+    private static void tell(String fault) {
+        wrong++;
+        System.out.println(sentence + ": " + fault);
+    }
+
     static void due(String what, int got, int want) {
         if (got != want) {
-            wrong++;
-            System.out.println(what + " answered " + got + ", due is " + want);
+            tell(what + " answered " + got + ", due is " + want);
+        }
+    }
+
+    static void holds(String what, boolean got) {
+        if (!got) {
+            tell(what + " does not hold");
         }
     }
 
@@ -43,51 +53,70 @@ final class Check {
             got = e.getClass();
         }
         if (got != want) {
-            wrong++;
-            System.out.println(what + " threw " + got + ", due is " + want);
+            tell(what + " threw " + got + ", due is " + want);
         }
     }
 
-    static void state(ExchangeDesk x, int line, int want) {
+    /** Calls that must leave all that the exchange shows as it was. */
+    static void changesNothing(Desk x, Runnable calls) {
+        same(x, calls, new View(x).toString());
+    }
+
+    private static void same(Desk x, Runnable calls, String before) {
+        calls.run();
+        String after = new View(x).toString();
+        if (!before.equals(after)) {
+            tell("what was " + before + " is now " + after);
+        }
+    }
+
+    static void state(Desk x, int line, int want) {
         due("state of line " + line, x.line(line, 0), want);
     }
 
-    static void with(ExchangeDesk x, int line, int want) {
+    static void states(Desk x, int want, int... lines) {
+        for (int line : lines) {
+            state(x, line, want);
+        }
+    }
+
+    static void with(Desk x, int line, int want) {
         due("whom line " + line + " is with", x.line(line, 1), want);
     }
 
-    static void path(ExchangeDesk x, int line, int want) {
+    static void path(Desk x, int line, int want) {
         due("slot of line " + line, x.line(line, 2), want);
     }
 
-    /** An idle line goes off the hook and dials: its state then. */
-    static int dial(ExchangeDesk x, int line, int number) {
-        x.up(line);
-        x.digit(line, number / 10);
-        return x.digit(line, number % 10);
+    static void units(Desk x, int line, int want) {
+        due("units of line " + line, x.line(line, 3), want);
     }
 
-    /** Two idle lines talk; the first one called. */
-    static void talk(ExchangeDesk x, int caller, int called) {
-        due("dial " + caller + " to " + called, dial(x, caller, 10 + called), RINGBACK);
-        due("answer of " + called, x.up(called), TALKING);
+    static void rests(Desk x, int line, int want) {
+        due("do not disturb of line " + line, x.line(line, 4), want);
     }
 
-    /** Leaves a unit only its lowest slots. */
-    static void keepSlots(ExchangeDesk x, int unit, int kept) {
-        for (int s = kept; s < 8; s++) {
-            x.slot(unit, s, false);
-        }
+    static void camper(Desk x, int line, int want) {
+        due("who camps at line " + line, x.line(line, 5), want);
     }
 
-    static void members(ExchangeDesk x, int g, int order, int... row) {
-        x.group(g, -1, order);
-        for (int line : row) {
-            x.group(g, line, 0);
-        }
+    static void blocked(Desk x, int want) {
+        due("blocked calls", x.count(0), want);
     }
 
-    static void entry(ExchangeDesk x, int k, int caller, int other, int began, int units) {
+    static void entries(Desk x, int want) {
+        due("entries", x.count(1), want);
+    }
+
+    static void slotsInUse(Desk x, int want) {
+        due("slots in use", x.count(2), want);
+    }
+
+    static void dials(Desk x, int line, int number, int want) {
+        due("line " + line + " dials " + number + ": it", x.dial(line, number), want);
+    }
+
+    static void entry(Desk x, int k, int caller, int other, int began, int units) {
         due("caller of entry " + k, x.book(k, 0), caller);
         due("other one of entry " + k, x.book(k, 1), other);
         due("beginning of entry " + k, x.book(k, 2), began);
