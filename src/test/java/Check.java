@@ -59,10 +59,7 @@ final class Check {
 
     /** Calls that must leave all that the exchange shows as it was. */
     static void changesNothing(Desk x, Runnable calls) {
-        same(x, calls, new View(x).toString());
-    }
-
-    private static void same(Desk x, Runnable calls, String before) {
+        String before = new View(x).toString();
         calls.run();
         String after = new View(x).toString();
         if (!before.equals(after)) {

@@ -29,6 +29,7 @@ public final class Promise05CampTest {
         Check.sentence("Promise 5, becomes idle: the camped one calls it", Promise05CampTest::callsWhenIdle);
         Check.sentence("Promise 5, it calls from every state", Promise05CampTest::callsBehindEveryState);
         Check.sentence("Promise 5, becomes busy: nobody calls", Promise05CampTest::busyIsNotIdle);
+        Check.sentence("Promise 5, until it becomes idle: nobody calls", Promise05CampTest::untilItIsIdle);
         Check.sentence("Promise 5, idle by whatever: its caller goes on the hook", Promise05CampTest::callerLeaves);
         Check.sentence("Promise 5, idle by whatever: another one answers", Promise05CampTest::anotherAnswers);
         Check.sentence("Promise 5, idle by whatever: a timer", Promise05CampTest::timerRunsOut);
@@ -245,6 +246,37 @@ public final class Promise05CampTest {
         Check.state(x, 0, State.BUSY);
         Check.state(x, 8, State.CAMPED);
         Check.camper(x, 0, 8);
+    }
+
+    private static void waits(Desk x, int state) {
+        Check.state(x, 0, state);
+        Check.camper(x, 0, 8);
+        Check.state(x, 8, State.CAMPED);
+        Check.with(x, 8, 0);
+    }
+
+    private static void untilItIsIdle() {
+        Desk x = new Desk();
+        x.up(0);
+        x.campAt(8, 0);
+        waits(x, State.DIAL_TONE);
+        x.digit(0, 1);
+        waits(x, State.DIALLING);
+        x.digit(0, 1);
+        waits(x, State.RINGBACK);
+        x.up(1);
+        waits(x, State.TALKING);
+        x.park(1, 0);
+        waits(x, State.PARKED);
+        x.dial(2, 60);
+        waits(x, State.TALKING);
+        x.transfer(2, 13);
+        waits(x, State.RINGBACK);
+        x.up(3);
+        x.transfer(0, 99);
+        waits(x, State.BUSY);
+        x.down(0);
+        Check.with(x, 0, 8);
     }
 
     private static void callerLeaves() {

@@ -70,6 +70,8 @@ public final class Promise06ParkTest {
         x.campAt(2, 8);
         x.park(0, 0);
         Check.states(x, State.CAMPED, 1, 2);
+        Check.camper(x, 0, 1);
+        Check.camper(x, 8, 2);
         Check.state(x, 0, State.BUSY);
         Check.state(x, 8, State.PARKED);
     }

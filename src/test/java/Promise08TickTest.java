@@ -237,22 +237,28 @@ public final class Promise08TickTest {
 
     private static void idleSinceItsTick() {
         Desk x = new Desk();
-        x.dial(0, 11);
-        x.tick(100);
-        x.dial(2, 15);
+        int[] ringing = {9, 7, 8};
+        for (int i = 0; i < ringing.length; i++) {
+            x.dial(i, 10 + ringing[i]);
+            x.tick(1);
+        }
         x.tick(1000);
-        x.members(0, 2, 5, 1);
-        x.dial(6, 40);
-        Check.with(x, 6, 1);
+        x.members(0, 2, 8, 7, 9);
+        for (int i = 0; i < ringing.length; i++) {
+            x.dial(12 + i, 40);
+            Check.with(x, 12 + i, ringing[i]);
+        }
     }
 
     // Line 0's timer is done, with the call of who camps, before line 1's timer is looked at.
     private static void byLines() {
         Desk x = new Desk();
+        x.dial(2, 17);
         x.dial(0, 19);
         x.dial(1, 18);
         x.campAt(10, 8);
         x.campAt(11, 9);
+        x.down(2);
         x.tick(300);
         Check.with(x, 9, 11);
         Check.path(x, 9, 0);

@@ -1,3 +1,6 @@
+import java.util.Arrays;
+import java.util.stream.IntStream;
+
 /** The states of a line, by the document's numbers. */
 final class State {
     static final int IDLE = 0;
@@ -28,8 +31,8 @@ final class State {
 
     /** All states but those that are named. */
     static int[] allBut(int... named) {
-        return java.util.stream.IntStream.rangeClosed(IDLE, HOWLER)
-                .filter(state -> java.util.Arrays.stream(named).noneMatch(one -> one == state))
+        return IntStream.rangeClosed(IDLE, HOWLER)
+                .filter(state -> Arrays.stream(named).noneMatch(one -> one == state))
                 .toArray();
     }
 }
